@@ -102,6 +102,14 @@ public final class BeatsTest {
         x.after(0, 0);
         check.due("11: on(1, 0)", x.on(1, 0), 1);
         check.due("11: nobody", new TwoBeatsAgo().on(60, 0), 0);
+        TwoBeatsAgo told = new TwoBeatsAgo();
+        for (int dancer = 0; dancer < 6; dancer++) {
+            told.dancer(6, 0, 3);
+        }
+        told.row(5, 3, 9);
+        told.pass(3);
+        check.due("11: by its ROW", told.on(1, 15), 12);
+        check.due("11: by its ROW", told.on(1, 14), 3);
     }
 
     private static void again() {
@@ -114,6 +122,17 @@ public final class BeatsTest {
         x.pass(1);
         check.due("12: swapping, behind five", x.again(), 6);
         check.due("12: BEAT stays", x.told(0), 5);
+        TwoBeatsAgo third = two(3, 0);
+        third.dancer(0, 0, 5);
+        third.after(1, 2);
+        third.after(2, 1);
+        check.due("12: of all", third.again(), -5);
+        third.pass(5);
+        check.due("12: of all", third.again(), 6);
+        TwoBeatsAgo once = new TwoBeatsAgo();
+        once.dancer(0, 0, 0);
+        Check.hall(once, "left 1 d=0");
+        check.due("12: the place now too", once.again(), -5);
         // One place in three beats: a ring of 20 is gone round in 60 beats, one of 21 in 63.
         TwoBeatsAgo round = new TwoBeatsAgo();
         round.dancer(0, 0, 0);

@@ -66,6 +66,7 @@ public final class BestTest {
         check.due("18: NONE ahead of BAD", x.alone(3, 0, 0), -1);
         check.due("18: AFTER stays", x.of(0, 2), 0);
         check.due("18: BEAT stays", x.told(0), 0);
+        check.due("18: not alone with the first", at(3, 3).alone(1, 5, 1), 0);
         // Behind 0 they are together, from beat 1 on no more.
         check.due("18: behind 0 is not looked at", x.alone(1, 1, 1), 1);
     }
@@ -84,6 +85,16 @@ public final class BestTest {
         Check.hall(never, "left 1 d=1&b=0");
         check.due("19: together without", never.together(), -5);
         check.due("19: never is more than any", never.stop(), 1);
+        never.pass(1);
+        check.due("19: behind 0, a beat later", never.stop(), 0);
+        never.pass(1);
+        check.due("19: behind 2, two beats later", never.stop(), 2);
+        TwoBeatsAgo late = new TwoBeatsAgo();
+        late.dancer(0, 0, 0);
+        late.dancer(1, 0, 22);
+        Check.hall(late, "left 1 d=1&(b=0|b=2|b=9)");
+        check.due("19: together without", late.together(), 11);
+        check.due("19: one less", late.stop(), 1);
         TwoBeatsAgo soon = at(0, 5);
         soon.after(1, 0);
         check.due("19: not less than without", soon.stop(), -5);
@@ -137,6 +148,9 @@ public final class BestTest {
         check.due("21: nobody", new TwoBeatsAgo().crowd(5), -5);
         check.due("21: of several the least", at(3, 2).crowd(0), 2);
         check.due("21: the most", at(3, 2, 3).crowd(0), 3);
+        check.due("21: place 0", at(0, 1, 0).crowd(0), 0);
+        check.due("21: place 0 of several", at(0, 1).crowd(40), 0);
+        check.due("21: place 1", at(1, 2).crowd(0), 1);
         TwoBeatsAgo x = at(9, 9, 4);
         x.after(0, 2);
         check.due("21: behind 0", x.crowd(0), 9);

@@ -147,7 +147,8 @@ public final class HallsTest {
         check.due("3: HALTING goes half of 10 upward", x.of(4, 4), 1);
         check.due("3: TURNING goes at BEAT 6", x.of(5, 4), 16);
         x.pass(1);
-        // Now dancer 0 was at 8, 7, 7, 7; dancer 5 goes on from BEAT 7.
+        // Now dancer 0 was at 8, 7, 7, 7, 6; dancer 5 goes on from BEAT 7.
+        check.due("3: LATE goes", x.of(1, 4), 7);
         check.due("3: TURNING goes at BEAT 7", x.of(5, 4), 17);
         x.pass(1);
         check.due("3: TURNING goes at BEAT 8", x.of(5, 4), 18);
@@ -247,6 +248,7 @@ public final class HallsTest {
         check.due("6: row(0, 0, 9)", x.row(0, 0, 9), 0);
         check.due("6: row(0, 0, 4)", x.row(0, 0, 4), 9);
         check.due("6: row(0, 3, 1)", x.row(0, 3, 1), 0);
+        check.due("6: row(0, 3, 0)", x.row(0, 3, 0), 1);
         check.due("6: part beyond", x.row(0, 4, 1), -1);
         check.due("6: part below", x.row(0, -1, 1), -1);
         check.due("6: no such dancer", x.row(2, 0, 1), -1);
@@ -274,6 +276,9 @@ public final class HallsTest {
     private static void hallHolds() {
         TwoBeatsAgo x = new TwoBeatsAgo();
         x.dancer(0, 0, 20);
+        for (int number = 1; number < 6; number++) {
+            x.dancer(0, 0, 23);
+        }
         Check.hall(x, "left 9 d=0");
         x.pass(1);
         check.due("8: told(1) without a wide", x.told(1), 24);
@@ -286,6 +291,8 @@ public final class HallsTest {
         for (int back = 1; back < 8; back++) {
             check.due("8: WAS " + back + " modulo WIDE", x.of(0, 10 + back), 8);
         }
+        check.due("8: of all", x.of(5, 10), 11);
+        check.due("8: of all", x.of(5, 17), 11);
         check.due("8: a fault", Check.hall(x, "wide 7x"), -16);
         check.due("8: THE TEXT is empty", x.count(5), 0);
         check.due("8: the one that held holds", x.told(1), 12);
@@ -308,6 +315,7 @@ public final class HallsTest {
     }
 
     private static void hallFaults() {
+        afterFault();
         fault("", 0);
         fault("Left 1 d=1", 0);
         fault(" left 1 d=1", 0);
@@ -318,6 +326,9 @@ public final class HallsTest {
         fault("wide ", 5);
         fault("wide  1", 5);
         fault("wide x", 5);
+        fault("wide :", 5);
+        fault("wide /", 5);
+        fault("wide 1:", 6);
         fault("wide 123", 7);
         fault("wide 1 ", 6);
         fault("wide 1 d=1", 6);
@@ -336,6 +347,8 @@ public final class HallsTest {
         fault("left 1 d=-1", 9);
         fault("left 1 d=123", 11);
         fault("left 1 d=1&", 11);
+        fault("left 1 d=1|", 11);
+        fault("left 1 d=1&d=1|d=1&", 19);
         fault("left 1 d=1&&d=1", 11);
         fault("left 1 d=1||d=1", 11);
         fault("left 1 d=1 ", 10);
@@ -358,6 +371,20 @@ public final class HallsTest {
         check.due("8: each ( ends", Check.hall(x, "left 1 ((((d=1))))&!!!!d=2|(d=1)&((((d=1))))"), 0);
         check.due("8: a text of 100", Check.hall(x, "left 10 d=1&d=1&d=1&d=1&d=1&d=1&d=1&d=1&d=1&d=1&d=1&d=1&d=1&d=1&d=1&d=1&d=1&d=1&d=1&d=1&d=10;wide 99"), 1);
         check.due("8: its wide", x.told(1), 99);
+    }
+
+    /** Nothing of a text that was none is left in the hall that comes next. */
+    private static void afterFault() {
+        TwoBeatsAgo x = new TwoBeatsAgo();
+        x.dancer(0, 0, 9);
+        check.due("8: a late fault", Check.hall(x, "wide 5;skip 3;left 9 d=0;left 8 d=0&d=1;x"), -50);
+        check.due("8: no wide", x.told(1), 24);
+        check.due("8: the place is not wrapped", x.of(0, 10), 9);
+        check.due("8: no STEP", x.of(0, 3), 0);
+        check.due("8: a hall", Check.hall(x, "left 1 d=0"), 0);
+        check.due("8: WIDE without", x.told(1), 24);
+        check.due("8: SKIP without", x.told(2), 0);
+        check.due("8: STEP", x.of(0, 3), 1);
     }
 
     private static void hallFull() {

@@ -232,6 +232,13 @@ public final class HandTest {
         check.due("29: the first row", x.looked(), 0);
         x.book(-1, 0);
         check.due("29: none", x.looked(), -5);
+        TwoBeatsAgo walking = at(0);
+        Check.hall(walking, "left 1 d=0");
+        walking.book(0, 0);
+        walking.book(0, 1);
+        check.due("29: the place now", walking.looked(), 1);
+        walking.pass(1);
+        check.due("29: the place now, not one ago", walking.looked(), 0);
         TwoBeatsAgo eight = at(0);
         for (int row = 0; row < 7; row++) {
             eight.book(0, 0);

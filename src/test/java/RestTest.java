@@ -94,12 +94,18 @@ public final class RestTest {
         x.dancer(1, 5, 2);
         x.after(0, 1);
         x.row(0, 1, 8);
-        x.see(0, 1, 2);
-        x.dance(1);
-        x.book(1, 3);
         x.pass(9);
         Check.hall(x, "left 1 d=1;wide 20;skip 5");
         x.pass(3);
+        // What holds of dancer 1 whomever 0 goes after, and a row that is so.
+        x.see(1, x.on(2, 11), 2);
+        x.see(1, x.on(3, 11), 3);
+        x.dance(2);
+        x.dance(0);
+        x.book(1, x.of(1, 10));
+        x.book(0, 98);
+        check.due("23: as seen", x.can(0), 3);
+        check.due("29: the second row", x.looked(), 1);
         x.act(0, TELLS, 5);
         String image = told(x);
         check.due("31: image()", x.image(), 2);
@@ -107,11 +113,16 @@ public final class RestTest {
         for (int time = 0; time < 2; time++) {
             x.after(0, 0);
             x.row(0, 1, 3);
-            x.see(0, 3, 2);
+            x.see(-1, 0, 0);
+            x.see(0, 98, 0);
+            x.dance(-1);
+            x.dance(1);
             x.dance(0);
             x.dance(2);
             x.book(-1, 0);
-            x.book(0, 0);
+            x.book(0, 97);
+            x.book(1, 97);
+            x.book(1, 98);
             x.begin(1, 3);
             x.pass(7);
             x.dancer(2, 2, 3);
@@ -121,6 +132,7 @@ public final class RestTest {
             x.act(1, STEPS, 5);
             check.due("32: undo()", x.undo(), 2);
             check.dueText("32: all is as it was", told(x), image);
+            check.due("32: the ROW", x.row(0, 1, 8), 8);
             check.due("32: HALLS stay", x.count(1), 2 + time);
             check.due("32: THE TEXT stays", x.count(5), 1);
             check.due("32: THE TRACE stays", x.count(6), 1);
