@@ -543,7 +543,9 @@ public final class TwoBeatsAgo {
             kind[dancer] = itsKind;
             v[dancer] = itsV;
             follows[dancer] = dancer;
-            Arrays.fill(rows, dancer * ROW_PARTS, (dancer + 1) * ROW_PARTS, 0);
+            for (int part = 0; part < ROW_PARTS; part++) {
+                rows[dancer * ROW_PARTS + part] = 0;
+            }
             standAt(dancer, place);
             return dancer;
         }
@@ -553,7 +555,10 @@ public final class TwoBeatsAgo {
         }
 
         private void standAt(int dancer, int place) {
-            if (has(dancer)) Arrays.fill(was, dancer * BACK, (dancer + 1) * BACK, place);
+            if (!has(dancer)) return;
+            for (int back = 0; back < BACK; back++) {
+                was[dancer * BACK + back] = place;
+            }
         }
 
         private void wrapAll() {

@@ -95,6 +95,11 @@ public final class BestTest {
         Check.hall(late, "left 1 d=1&(b=0|b=2|b=9)");
         check.due("19: together without", late.together(), 11);
         check.due("19: one less", late.stop(), 1);
+        // Five away, a place each beat of 3, 12, 30, 42, 60 by a stop behind 2 that keeps that of beat 2.
+        TwoBeatsAgo longest = at(0, 19);
+        Check.hall(longest, "left 1 d=1&(b=1|b=9)");
+        check.due("19: together without", longest.together(), -5);
+        check.due("19: behind 60, rather than never", longest.stop(), 2);
         TwoBeatsAgo soon = at(0, 5);
         soon.after(1, 0);
         check.due("19: not less than without", soon.stop(), -5);

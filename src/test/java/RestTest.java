@@ -98,8 +98,8 @@ public final class RestTest {
         Check.hall(x, "left 1 d=1;wide 20;skip 5");
         x.pass(3);
         // What holds of dancer 1 whomever 0 goes after, and a row that is so.
-        x.see(1, x.on(2, 11), 2);
-        x.see(1, x.on(3, 11), 3);
+        x.see(1, x.on(11, 11), 11);
+        x.see(1, x.on(12, 11), 12);
         x.dance(2);
         x.dance(0);
         x.book(1, x.of(1, 10));
